@@ -1,0 +1,130 @@
+import java.lang.reflect.InvocationTargetException;
+import java.lang.reflect.Method;
+import java.util.ArrayList;
+import java.util.HashMap;
+import java.util.List;
+import java.util.Map;
+
+/** Runs of calls, drawn by a fixed rule, on Foldrose and on PlainRose: both have to answer the same. */
+public final class RandomRunsTest {
+  /** Each call with how often it is drawn and what its arguments are: w word, g group, m map, l letter, numbers. */
+  private static final String[] CALLS = {
+    "spell 30 -", "type 1 l", "wipe 1 -", "word 1 -", "length 1 w", "letter 2 wi", "compare 2 ww", "product 4 ww",
+    "inverse 2 w", "power 2 we", "core 1 w", "exponent 1 w", "sum 1 wl", "commute 1 ww", "conjugator 2 ww",
+    "group 4 -", "generate 14 gw", "undo 2 g", "points 1 g", "rank 1 g", "next 2 gpl", "leads 1 gw",
+    "contains 2 gw", "index 2 g", "basis 3 gi", "written 2 gw", "writtenAt 3 gwi", "meet 3 gg", "join 2 gg",
+    "conjugate 3 gw", "fill 2 g", "isWithin 2 gg", "areConjugate 2 gg", "isMalnormal 2 g", "isNormal 2 g",
+    "count 2 gn", "map 2 -", "image 8 mlw", "apply 2 mw", "compose 2 mm", "isOnto 2 m", "invert 3 m", "fixes 1 mw",
+    "growth 2 mln", "isTrack 2 m", "determinant 1 m", "shorten 2 w", "isPrimitive 2 w", "areOfOrbit 2 ww",
+    "checksum 2 -", "primitiveShare 1 -", "meanLength 1 -", "isSound 1 -"};
+  private static final String[] ALPHABETS = {"aAbBcC", "ab", "aAbB", "abc", "abC", "a", "aab", "abbbcA"};
+
+  private final Map<String, Method> ours = methodsOf(Foldrose.class);
+  private final Map<String, Method> plain = methodsOf(PlainRose.class);
+  private final List<String> drawn = new ArrayList<>();
+  private long state;
+
+  private RandomRunsTest(long seed) {
+    state = seed;
+    for (String call : CALLS) {
+      String[] parts = call.split(" ");
+      for (int i = 0; i < Integer.parseInt(parts[1]); i++) {
+        drawn.add(parts[0] + " " + parts[2]);
+      }
+    }
+  }
+
+  public static void main(String[] args) {
+    int runs = args.length > 0 ? Integer.parseInt(args[0]) : 400;
+    long seed = args.length > 1 ? Long.parseLong(args[1]) : 1;
+    RandomRunsTest test = new RandomRunsTest(seed);
+    for (int run = 0; run < runs; run++) {
+      test.run(run);
+    }
+    Check.end("RandomRunsTest");
+  }
+
+  private static Map<String, Method> methodsOf(Class<?> type) {
+    Map<String, Method> methods = new HashMap<>();
+    for (Method method : type.getDeclaredMethods()) {
+      if (java.lang.reflect.Modifier.isPublic(method.getModifiers())) {
+        methods.put(method.getName(), method);
+      }
+    }
+    return methods;
+  }
+
+  private int draw(int below) {
+    state = state * 6364136223846793005L + 1442695040888963407L;
+    return (int) ((state >>> 33) % below);
+  }
+
+  private void run(int number) {
+    Foldrose one = new Foldrose();
+    PlainRose other = new PlainRose();
+    String alphabet = ALPHABETS[draw(ALPHABETS.length)];
+    int longest = 1 + draw(draw(4) == 0 ? 30 : 7);
+    StringBuilder told = new StringBuilder("run " + number + ":");
+    for (int call = 0; call < 120; call++) {
+      String[] parts = drawn.get(draw(drawn.size())).split(" ");
+      if (parts[0].equals("spell")) {
+        spell(one, other, told, alphabet, longest);
+      } else {
+        Object[] values = values(parts[1], other);
+        both(one, other, parts[0], values, told);
+      }
+    }
+    both(one, other, "checksum", new Object[0], told);
+    both(one, other, "isSound", new Object[0], told);
+  }
+
+  private void spell(Foldrose one, PlainRose other, StringBuilder told, String alphabet, int longest) {
+    int letters = draw(longest + 1);
+    for (int i = 0; i < letters; i++) {
+      both(one, other, "type", new Object[] {alphabet.charAt(draw(alphabet.length()))}, told);
+    }
+    both(one, other, "word", new Object[0], told);
+  }
+
+  private Object[] values(String kinds, PlainRose other) {
+    Object[] values = new Object[kinds.equals("-") ? 0 : kinds.length()];
+    for (int i = 0; i < values.length; i++) {
+      values[i] = value(kinds.charAt(i), other);
+    }
+    return values;
+  }
+
+  private Object value(char kind, PlainRose other) {
+    boolean odd = draw(40) == 0;
+    switch (kind) {
+      case 'w': return odd ? draw(30) - 3 : draw(Math.max(1, other.wordCount()));
+      case 'g': return odd ? draw(11) - 2 : draw(Math.max(1, other.groupCount()));
+      case 'm': return odd ? draw(9) - 2 : draw(Math.max(1, other.mapCount()));
+      case 'l': return odd ? "dDxX@`[{ \u0000\u00ff\uffff".charAt(draw(12)) : "aAbBcCabcabc".charAt(draw(12));
+      case 'i': return draw(5) - (odd ? 2 : 0);
+      case 'e': return odd ? draw(100) - 50 : draw(15) - 7;
+      case 'n': return odd ? draw(50) - 10 : draw(22);
+      default: return draw(odd ? 50 : 8) - 1;
+    }
+  }
+
+  private void both(Foldrose one, PlainRose other, String name, Object[] values, StringBuilder told) {
+    told.append(' ').append(name).append(java.util.Arrays.toString(values));
+    String want = Check.outcome(() -> invoke(plain.get(name), other, values));
+    told.append('=').append(want).append(';');
+    Check.due(told.toString(), () -> invoke(ours.get(name), one, values), want);
+  }
+
+  private static Object invoke(Method method, Object object, Object[] values) {
+    try {
+      return method.invoke(object, values);
+    } catch (InvocationTargetException thrown) {
+      if (thrown.getCause() instanceof RuntimeException) {
+        throw (RuntimeException) thrown.getCause();
+      }
+      throw new AssertionError(thrown.getCause());
+    } catch (IllegalAccessException thrown) {
+      throw new AssertionError(thrown);
+    }
+  }
+}
