@@ -65,23 +65,127 @@ public final class RandomRunsTest {
     String alphabet = ALPHABETS[draw(ALPHABETS.length)];
     int longest = 1 + draw(draw(4) == 0 ? 30 : 7);
     StringBuilder told = new StringBuilder("run " + number + ":");
+    begin(number % 5, one, other, told);
     for (int call = 0; call < 120; call++) {
       String[] parts = drawn.get(draw(drawn.size())).split(" ");
       if (parts[0].equals("spell")) {
-        spell(one, other, told, alphabet, longest);
+        spell(one, other, told, drawWord(alphabet, longest));
       } else {
-        Object[] values = values(parts[1], other);
-        both(one, other, parts[0], values, told);
+        both(one, other, parts[0], values(parts[1], other), told);
       }
     }
     both(one, other, "checksum", new Object[0], told);
     both(one, other, "isSound", new Object[0], told);
   }
 
-  private void spell(Foldrose one, PlainRose other, StringBuilder told, String alphabet, int longest) {
-    int letters = draw(longest + 1);
-    for (int i = 0; i < letters; i++) {
-      both(one, other, "type", new Object[] {alphabet.charAt(draw(alphabet.length()))}, told);
+  /** What calls drawn one by one seldom come to: maps onto, words that others become, and groups of many points. */
+  private void begin(int kind, Foldrose one, PlainRose other, StringBuilder told) {
+    if (kind == 1) {
+      beginWithMap(one, other, told);
+    } else if (kind == 2) {
+      beginWithConjugates(one, other, told);
+    } else if (kind == 3) {
+      beginWithGroup(one, other, told);
+    } else if (kind == 4) {
+      beginWithMovedWords(one, other, told);
+    }
+  }
+
+  /** The images of a map made of moves and exchanges, as many as their images can be typed. */
+  private String[] drawOnto() {
+    List<String[]> steps = PlainRose.moves();
+    steps.addAll(List.of(new String[] {"b", "a", "c"}, new String[] {"a", "c", "b"}, new String[] {"A", "b", "c"}));
+    String[] images = {"a", "b", "c"};
+    int most = draw(16);
+    for (int i = 0; i < most; i++) {
+      String[] step = steps.get(draw(steps.size()));
+      String[] next = new String[3];
+      boolean fits = true;
+      for (int k = 0; k < 3; k++) {
+        next[k] = draw(2) == 0 || i > 0 ? PlainRose.mapped(step, images[k]) : images[k];
+        fits = fits && next[k].length() <= 30;
+      }
+      images = fits && PlainRose.onto(next) ? next : images;
+    }
+    return images;
+  }
+
+  private void beginWithMap(Foldrose one, PlainRose other, StringBuilder told) {
+    both(one, other, "map", new Object[0], told);
+    String[] images = drawOnto();
+    for (int i = 0; i < 3; i++) {
+      spell(one, other, told, images[i]);
+      both(one, other, "image", new Object[] {0, "abc".charAt(i), other.wordCount() - 1}, told);
+    }
+    both(one, other, "isTrack", new Object[] {0}, told);
+    both(one, other, "invert", new Object[] {0}, told);
+    both(one, other, "compose", new Object[] {0, 1}, told);
+    for (int i = 0; i < 3; i++) {
+      both(one, other, "growth", new Object[] {draw(3), "abc".charAt(i), draw(21)}, told);
+    }
+    both(one, other, "apply", new Object[] {1, draw(3)}, told);
+    both(one, other, "determinant", new Object[] {draw(2)}, told);
+  }
+
+  private void beginWithConjugates(Foldrose one, PlainRose other, StringBuilder told) {
+    String part = drawWord("aAbBcC", 4);
+    String core = PlainRose.coreOf(PlainRose.cancelled(part.repeat(1 + draw(4))));
+    String turned = PlainRose.turnedRound(core).get(draw(Math.max(1, core.length())));
+    for (String word : List.of(core, turned)) {
+      String ahead = drawWord("aAbBcC", 6);
+      spell(one, other, told, PlainRose.times(ahead, word, PlainRose.back(ahead)));
+    }
+    for (int i = 0; i < 4; i++) {
+      both(one, other, "conjugator", new Object[] {i / 2 % 2, i % 2}, told);
+    }
+    both(one, other, "exponent", new Object[] {draw(2)}, told);
+    both(one, other, "commute", new Object[] {0, 1}, told);
+  }
+
+  private void beginWithGroup(Foldrose one, PlainRose other, StringBuilder told) {
+    both(one, other, "group", new Object[0], told);
+    both(one, other, "group", new Object[0], told);
+    int words = 1 + draw(16);
+    for (int i = 0; i < words; i++) {
+      spell(one, other, told, drawWord(draw(2) == 0 ? "aAbBcC" : "aAbb", 1 + draw(13)));
+      both(one, other, "generate", new Object[] {draw(5) / 4, i}, told);
+    }
+    both(one, other, "fill", new Object[] {draw(2)}, told);
+    both(one, other, "conjugate", new Object[] {draw(3), draw(words)}, told);
+    both(one, other, "meet", new Object[] {draw(3), draw(3)}, told);
+    both(one, other, "isMalnormal", new Object[] {0}, told);
+    both(one, other, "areConjugate", new Object[] {draw(3), 3}, told);
+    for (int i = 0; i < 2 * words; i++) {
+      both(one, other, "undo", new Object[] {draw(4)}, told);
+      both(one, other, "points", new Object[] {draw(4)}, told);
+    }
+  }
+
+  private void beginWithMovedWords(Foldrose one, PlainRose other, StringBuilder told) {
+    for (int i = 0; i < 4; i++) {
+      String word = drawWord("aAbBcC", 4);
+      word = draw(2) == 0 ? PlainRose.cancelled(word.substring(0, Math.min(1, word.length())).repeat(draw(5))) : word;
+      String moved = PlainRose.mapped(drawOnto(), word);
+      spell(one, other, told, moved.length() <= 30 ? moved : word);
+    }
+    for (int i = 0; i < 4; i++) {
+      both(one, other, "shorten", new Object[] {i}, told);
+      both(one, other, "isPrimitive", new Object[] {i}, told);
+      both(one, other, "areOfOrbit", new Object[] {i, draw(4)}, told);
+    }
+  }
+
+  private String drawWord(String alphabet, int longest) {
+    StringBuilder word = new StringBuilder();
+    for (int letters = draw(longest + 1); letters > 0; letters--) {
+      word.append(alphabet.charAt(draw(alphabet.length())));
+    }
+    return word.toString();
+  }
+
+  private void spell(Foldrose one, PlainRose other, StringBuilder told, String word) {
+    for (char letter : word.toCharArray()) {
+      both(one, other, "type", new Object[] {letter}, told);
     }
     both(one, other, "word", new Object[0], told);
   }
