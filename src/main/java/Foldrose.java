@@ -198,7 +198,6 @@ public final class Foldrose {
   // Groups
 
   public int group() throws IllegalStateException {
-    refuseNinthGroup();
     net.start();
     net.addPoint();
     return keepGroup();
@@ -296,7 +295,6 @@ public final class Foldrose {
   public int meet(int group, int other) throws IndexOutOfBoundsException, IllegalStateException {
     Graph one = groupAt(group).graph;
     Graph two = groupAt(other).graph;
-    refuseNinthGroup();
     net.start();
     net.addPairs(one, two);
     return keepGroup();
@@ -305,7 +303,6 @@ public final class Foldrose {
   public int join(int group, int other) throws IndexOutOfBoundsException, IllegalStateException {
     Graph one = groupAt(group).graph;
     Graph two = groupAt(other).graph;
-    refuseNinthGroup();
     net.start();
     int base = net.addGraph(one);
     net.makeOne(base, net.addGraph(two));
@@ -315,7 +312,6 @@ public final class Foldrose {
   public int conjugate(int group, int word) throws IndexOutOfBoundsException, IllegalStateException {
     Graph graph = groupAt(group).graph;
     Row row = wordAt(word);
-    refuseNinthGroup();
     net.start();
     int base = net.addPoint();
     net.addPath(base, row, net.addGraph(graph));
@@ -324,7 +320,6 @@ public final class Foldrose {
 
   public int fill(int group) throws IndexOutOfBoundsException, IllegalStateException {
     Graph graph = groupAt(group).graph;
-    refuseNinthGroup();
     net.start();
     net.addGraph(graph);
     net.addMissing();
@@ -614,12 +609,6 @@ public final class Foldrose {
     return forms[word];
   }
 
-  private void refuseNinthGroup() {
-    if (groupCount >= GROUP_LIMIT) {
-      throw new IllegalStateException("there are 8 groups");
-    }
-  }
-
   private void refuseSeventhMap() {
     if (mapCount >= MAP_LIMIT) {
       throw new IllegalStateException("there are 6 maps");
@@ -641,6 +630,9 @@ public final class Foldrose {
 
   /** Makes a group of what the net holds; until it is counted, its place is free to be written over. */
   private int keepGroup() {
+    if (groupCount >= GROUP_LIMIT) {
+      throw new IllegalStateException("there are 8 groups");
+    }
     Group made = groups[groupCount];
     if (!net.finish(made.graph)) {
       throw new IllegalStateException("it would have too many points");
@@ -1543,7 +1535,7 @@ public final class Foldrose {
         int second = petal == 2 ? 1 : 2;
         int unmoved = core.size - core.oftenOnPetal(petal);
         for (int kinds = 0; kinds < KINDS * KINDS; kinds++) {
-          int behind = 1 << letter | kinds / KINDS << 2 * first | kinds % KINDS << 2 * second;
+          int behind = (1 << letter) | ((kinds / KINDS) << (2 * first)) | ((kinds % KINDS) << (2 * second));
           int size = unmoved + addedBy(behind);
           if (size < bestSize) {
             bestSize = size;
@@ -1574,7 +1566,7 @@ public final class Foldrose {
       int added = 0;
       for (int one = 0; one < LETTERS; one++) {
         for (int other = one + 1; other < LETTERS; other++) {
-          if (((behind >> one ^ behind >> other) & 1) != 0) {
+          if (((behind >> one) & 1) != ((behind >> other) & 1)) {
             added += turns[one * LETTERS + other];
           }
         }
@@ -1586,12 +1578,12 @@ public final class Foldrose {
       moved.clear();
       for (int i = 0; i < core.size; i++) {
         int one = core.letters[i];
-        boolean stays = one >> 1 == bestLetter >> 1;
-        if (!stays && (bestBehind >> (one ^ 1) & 1) != 0) {
+        boolean stays = (one >> 1) == (bestLetter >> 1);
+        if (!stays && ((bestBehind >> (one ^ 1)) & 1) != 0) {
           moved.add(bestLetter ^ 1);
         }
         moved.add(one);
-        if (!stays && (bestBehind >> one & 1) != 0) {
+        if (!stays && ((bestBehind >> one) & 1) != 0) {
           moved.add(bestLetter);
         }
       }
