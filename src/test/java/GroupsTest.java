@@ -105,6 +105,10 @@ public final class GroupsTest {
         "compare 5 0 = 0");
     Script.run("25 long", "spell aaaaabbbbb = 0; power 0 3 = 1; group = 0; generate 0 1 = 1; points 0 = 30; basis 0 0 = 2",
         "length 2 = 30");
+    // Two loops at the end of a way of 39 letters: as a generator each has 79.
+    Script.run("25 of 79 letters", "often 13 type b; word = 0; power 0 3 = 1; spell a = 2; spell c = 3; group = 0",
+        "generate 0 3; generate 0 2 = 2; conjugate 0 1 = 1; points 1 = 40; rank 1 = 2; isSound = true; basis 1 0 = ISE",
+        "undo 1 = 1; points 1 = 40; rank 1 = 1; next 1 39 a = 39; next 1 39 c = -1; isSound = true; undo 1 = 0");
     // A loop at the end of a way of 30 letters: its word has 61.
     Script.run("25 of 61 letters", "often 15 type a; often 15 type b; word = 0; spell c = 1; group = 0; generate 0 1 = 1",
         "conjugate 0 0 = 1; points 1 = 31; rank 1 = 1; basis 1 0 = ISE; basis 1 1 = NSEE; often 21 word; basis 0 0 = 23",

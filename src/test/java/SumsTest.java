@@ -1,3 +1,5 @@
+import java.lang.reflect.Field;
+
 /** Promises 50 to 53. */
 public final class SumsTest {
   public static void main(String[] args) {
@@ -48,5 +50,56 @@ public final class SumsTest {
         "isSound = true; fill 0 = 1; meet 0 1 = 2; join 0 2 = 3; conjugate 0 1 = 4; isSound = true; undo 1; undo 4; undo 3",
         "isSound = true; map; image 0 a 0; isSound = true; image 0 c 1; compose 0 0; isSound = true; invert 0 = UOE",
         "isSound = true");
+    unsound("an uncancelled word", "words.1.letters.1", 1);
+    unsound("an uncancelled image", "maps.0.rows.2.letters.1", 1);
+    unsound("a generator outside its group", "groups.0.generators.1.letters.0", 4);
+    unsound("a letter that does not lead back", "groups.0.graph.ends.0", 0);
+    unsound("a rank that is not the one of the basis", "groups.0.graph.loopCount", 1);
+  }
+
+  /** No call can make an object unsound, so its fields are changed from outside; these lines go with their names. */
+  private static void unsound(String what, String path, int value) {
+    Foldrose rose = new Foldrose();
+    spell(rose, "b");
+    spell(rose, "aab");
+    rose.generate(rose.group(), 0);
+    rose.generate(0, 1);
+    rose.image(rose.map(), 'c', 1);
+    Check.due("53 before " + what, rose::isSound, true);
+    change(rose, path, value);
+    Check.due("53 " + what, rose::isSound, false);
+  }
+
+  private static void spell(Foldrose rose, String word) {
+    for (char letter : word.toCharArray()) {
+      rose.type(letter);
+    }
+    rose.word();
+  }
+
+  private static void change(Object from, String path, int value) {
+    String[] names = path.split("\\.");
+    Object object = from;
+    try {
+      for (int i = 0; i < names.length; i++) {
+        boolean last = i == names.length - 1;
+        if (object instanceof byte[]) {
+          ((byte[]) object)[Integer.parseInt(names[i])] = (byte) value;
+        } else if (object instanceof int[]) {
+          ((int[]) object)[Integer.parseInt(names[i])] = value;
+        } else if (object instanceof Object[]) {
+          object = ((Object[]) object)[Integer.parseInt(names[i])];
+        } else {
+          Field field = object.getClass().getDeclaredField(names[i]);
+          field.setAccessible(true);
+          if (last) {
+            field.setInt(object, value);
+          }
+          object = field.get(object);
+        }
+      }
+    } catch (ReflectiveOperationException thrown) {
+      throw new AssertionError(thrown);
+    }
   }
 }
