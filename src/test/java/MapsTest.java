@@ -23,7 +23,7 @@ public final class MapsTest {
 
   private static void images() {
     Script.run("38", "image 0 a 0 = IOOBE; map = 0; image 0 a 0 = IOOBE; spell bc = 0; image 0 a 0 = 1; image 0 a 0 = 2",
-        "image 0 c 0 = 1; image 0 b 0 = 1; image 0 A 0 = IAE; image 0 d 0 = IAE; image 0 #353 = IAE; image 1 A 0 = IOOBE",
+        "image 0 c 0 = 1; image 0 b 0 = 1; image 0 A 0 = IAE; image 0 d 0 = IAE; image 0 #353 0 = IAE; image 1 A 0 = IOOBE",
         "image 0 A 1 = IOOBE; image -1 a 0 = IOOBE; image 0 a -1 = IOOBE; image 0 C 0 = IAE; spell - = 1",
         "image 0 a 1 = 2; image 0 a 0 = 0; image 0 b 0 = 2; spell abc = 2; image 0 b 2 = 2; image 0 b 2 = 3");
     Script.run("38 kept", "map; spell bc = 0; image 0 a 0; product 0 0 = 1; spell a = 2; apply 0 2 = 3; compare 3 0 = 0");
@@ -123,6 +123,10 @@ public final class MapsTest {
     Script.run("45 not met", "map; spell ab = 0; spell a = 1; image 0 a 0; image 0 c 1; isTrack 0 = true; spell aC = 2",
         "image 0 b 2; isTrack 0 = false");
     Script.run("45 at once", "map; spell Ab = 0; spell a = 1; image 0 c 0; isTrack 0 = true; image 0 b 1; isTrack 0 = false");
+    // Of a and b the heads are A both, or a, and only one image has the two beside each other.
+    Script.run("45 in each image", "map; map; map; spell Ab = 0; spell A = 1; spell a = 2; image 0 b 1; isTrack 0 = true",
+        "image 0 a 0; isTrack 0 = false; image 1 a 1; isTrack 1 = true; image 1 b 0; isTrack 1 = false; image 2 b 2",
+        "isTrack 2 = true; image 2 c 0; isTrack 2 = false");
     Script.run("45 never", "map; spell ba = 0; spell ab = 1; image 0 a 0; image 0 b 1; isTrack 0 = true; spell aa = 2",
         "image 0 a 2; image 0 c 1; isTrack 0 = true");
   }

@@ -2,9 +2,19 @@
 public final class MovesTest {
   private static final String B30 = "bbbbbbbbbbbbbbbbbbbbbbbbbbbbbb";
 
+  /** For each move with a small letter, by its letter and its kinds, a word that becomes another one without it. */
+  private static final String[] BY_EACH_MOVE = {
+    "a01: ABcAc c", "a02: bCACA C", "a03: accAbb bbcc", "a10: aBcAc B", "a11: bCaCA C", "a12: BCAAC B", "a13: BaBaCC BBCC",
+    "a20: bcAca b", "a21: cAAcb b", "a22: cABca c", "a23: bacABc bcBc", "a30: aBAcAc B", "a31: CaCab C", "a32: ACbAC C",
+    "b01: BacBc c", "b02: BCBAC C", "b03: BAAbCC AACC", "b10: cbAcB B", "b11: bCBaC C", "b12: CBCAb C", "b13: aCCBcB C",
+    "b20: babcc c", "b21: ACbCB C", "b22: cBAcb c", "b23: ACCbcB C", "b30: BcBcba B", "b31: cBcAB c", "b32: BCBCa C",
+    "c01: acaCbC b", "c02: CaaCCB C", "c03: BCac B", "c10: CaCBBC C", "c11: AcBc B", "c12: cbcA b", "c13: BBCCaCa C",
+    "c20: caccBB c", "c21: bCAC b", "c22: bcac b", "c23: cBaccac c", "c30: aCBc B", "c31: caCbaBc c", "c32: ccAbccb c"};
+
   public static void main(String[] args) {
     shortening();
     firstOnes();
+    byEachMove();
     primitive();
     orbits();
     Check.end("MovesTest");
@@ -38,6 +48,14 @@ public final class MovesTest {
     shortensTo("47 first letter again", "ac", "c");
     shortensTo("47 first kind", "bcBCACBa", "acBCbAC");
     shortensTo("47 second kind", "ABcBABaC", "aaCBcBB");
+  }
+
+  /** A move with a capital letter does to cores what one with the small letter does, which is ahead of it. */
+  private static void byEachMove() {
+    for (String row : BY_EACH_MOVE) {
+      String[] parts = row.split(" ");
+      shortensTo("47 by the move " + parts[0], parts[1], parts[2]);
+    }
   }
 
   private static void primitive() {

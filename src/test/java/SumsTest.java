@@ -51,20 +51,26 @@ public final class SumsTest {
         "isSound = true; map; image 0 a 0; isSound = true; image 0 c 1; compose 0 0; isSound = true; invert 0 = UOE",
         "isSound = true");
     unsound("an uncancelled word", "words.1.letters.1", 1);
+    unsound("an uncancelled first word", "words.0.letters.1", 3);
     unsound("an uncancelled image", "maps.0.rows.2.letters.1", 1);
+    unsound("an uncancelled image of a", "maps.0.rows.0.letters.2", 1);
     unsound("a generator outside its group", "groups.0.generators.1.letters.0", 4);
+    unsound("a first generator outside its group", "groups.0.generators.0.letters.0", 4);
     unsound("a letter that does not lead back", "groups.0.graph.ends.0", 0);
+    unsound("a capital letter that does not lead back", "groups.0.graph.ends.1", 2);
+    unsound("a letter that does not lead back from the last point", "groups.0.graph.ends.14", 1);
     unsound("a rank that is not the one of the basis", "groups.0.graph.loopCount", 1);
   }
 
   /** No call can make an object unsound, so its fields are changed from outside; these lines go with their names. */
   private static void unsound(String what, String path, int value) {
     Foldrose rose = new Foldrose();
-    spell(rose, "b");
+    spell(rose, "bb");
     spell(rose, "aab");
     rose.generate(rose.group(), 0);
     rose.generate(0, 1);
     rose.image(rose.map(), 'c', 1);
+    rose.image(0, 'a', 1);
     Check.due("53 before " + what, rose::isSound, true);
     change(rose, path, value);
     Check.due("53 " + what, rose::isSound, false);
