@@ -116,17 +116,20 @@ public final class GroupsTest {
   }
 
   private static void writing() {
-    Script.run("26, 27", "spell aa = 0; spell b = 1; group = 0; generate 0 0; generate 0 1; spell baaB = 2; written 0 2 = 3",
+    Script.run("26, 27", "spell aa = 0; spell b = 1; group = 0; generate 0 0; generate 0 1; spell baaB = 2",
+        "written 0 2 = 3",
         "writtenAt 0 2 0 = 1; writtenAt 0 2 1 = 2; writtenAt 0 2 2 = -1; writtenAt 0 2 3 = NSEE; writtenAt 0 2 -1 = NSEE",
         "spell AAAAbb = 3; written 0 3 = 4; writtenAt 0 3 0 = -2; writtenAt 0 3 1 = -2; writtenAt 0 3 2 = 1",
         "writtenAt 0 3 3 = 1; spell a = 4; written 0 4 = NSEE; writtenAt 0 4 0 = NSEE; spell - = 5; written 0 5 = 0",
         "writtenAt 0 5 0 = NSEE; written 1 0 = IOOBE; written 0 6 = IOOBE; writtenAt 1 0 0 = IOOBE",
         "writtenAt 0 6 0 = IOOBE; written -1 0 = IOOBE; written 0 -1 = IOOBE; writtenAt -1 0 0 = IOOBE",
         "writtenAt 0 -1 0 = IOOBE; spell abA = 6; written 0 6 = NSEE; writtenAt 0 2 2147483647 = NSEE");
-    Script.run("27 outside", "spell aa = 0; spell b = 1; spell ba = 2; spell bac = 3; group = 0; generate 0 0; generate 0 1",
+    Script.run("27 outside", "spell aa = 0; spell b = 1; spell ba = 2; spell bac = 3; group = 0; generate 0 0",
+        "generate 0 1",
         "written 0 2 = NSEE; writtenAt 0 2 0 = NSEE; written 0 3 = NSEE; writtenAt 0 3 0 = NSEE; writtenAt 0 1 0 = 1");
     Script.run("27 all", "group = 0; fill 0 = 1; spell acB = 0; written 1 0 = 3; writtenAt 1 0 0 = 1; writtenAt 1 0 1 = 3",
-        "writtenAt 1 0 2 = -2; writtenAt 1 0 3 = NSEE; basis 1 0 = 1; letter 1 0 = a; length 1 = 1; basis 1 2 = 2; letter 2 0 = c");
+        "writtenAt 1 0 2 = -2; writtenAt 1 0 3 = NSEE; basis 1 0 = 1; letter 1 0 = a; length 1 = 1; basis 1 2 = 2",
+        "letter 2 0 = c");
     Script.run("26 in a tree backward", "spell aBc = 0; group = 0; generate 0 0; written 0 0 = 1; writtenAt 0 0 0 = -1",
         "power 0 -2 = 1; written 0 1 = 2; writtenAt 0 1 1 = 1");
   }
@@ -196,7 +199,8 @@ public final class GroupsTest {
         "areConjugate 3 4 = true; areConjugate 2 5 = false; areConjugate 0 0 = true; group = 6; areConjugate 6 0 = false",
         "areConjugate 0 6 = false; areConjugate 6 6 = true; areConjugate 0 7 = IOOBE; areConjugate 7 0 = IOOBE",
         "areConjugate -1 0 = IOOBE; areConjugate 0 -1 = IOOBE; generate 6 2; generate 5 2; areConjugate 5 6 = false");
-    Script.run("33 at the end of a way", "spell aabab = 0; spell cb = 1; spell CA = 2; spell ab = 3; group = 0; generate 0 0",
+    Script.run("33 at the end of a way", "spell aabab = 0; spell cb = 1; spell CA = 2; spell ab = 3; group = 0",
+        "generate 0 0",
         "conjugate 0 1 = 1; conjugate 1 2 = 2; areConjugate 1 2 = true; areConjugate 0 2 = true; generate 2 3 = 2",
         "areConjugate 0 2 = false; generate 0 3 = 2; areConjugate 0 2 = false; conjugate 0 2 = 3; areConjugate 0 3 = true");
     // As many points and edges, but other ones; and one within a conjugate of the other.
@@ -213,8 +217,10 @@ public final class GroupsTest {
         "isMalnormal 2 = false; group = 3; generate 3 3; isMalnormal 3 = true; fill 1 = 4; isMalnormal 4 = false",
         "fill 0 = 5; isMalnormal 5 = true; isMalnormal 6 = IOOBE; isMalnormal -1 = IOOBE");
     // Nothing is left of the folding of another group.
-    Script.run("34 after folding", "spell " + A20 + " = 0; power 0 2 = 1; spell a = 2; product 1 2 = 3; spell bab = 4; group = 0",
-        "group = 1; generate 1 4; generate 0 1; generate 0 3 = 1; isMalnormal 1 = true; map; isOnto 0 = true; areConjugate 0 1 = false");
+    Script.run("34 after folding", "spell " + A20 + " = 0; power 0 2 = 1; spell a = 2; product 1 2 = 3; spell bab = 4",
+        "group = 0",
+        "group = 1; generate 1 4; generate 0 1; generate 0 3 = 1; isMalnormal 1 = true; map; isOnto 0 = true",
+        "areConjugate 0 1 = false");
     Script.run("34 of two", "spell aab = 0; spell bbc = 1; group = 0; generate 0 0; generate 0 1; isMalnormal 0 = true",
         "spell abab = 2; group = 1; generate 1 2; isMalnormal 1 = false");
   }
@@ -238,9 +244,16 @@ public final class GroupsTest {
         "count 0 0 = 1; count 0 1 = 0; count 0 2 = 2; count 0 20 = 2; generate 0 1; count 0 1 = 2; count 0 2 = 4",
         "count 0 3 = 10; count 0 4 = 20; count 0 -1 = IAE; count 0 21 = IAE; count 1 21 = IOOBE; count -1 0 = IOOBE",
         "count 0 2147483647 = IAE; count 0 -2147483648 = IAE");
-    Script.run("36 after a larger one", "spell " + A20 + " = 0; power 0 2 = 1; spell aa = 2; group = 0; generate 0 1; group = 1",
-        "generate 1 2; fill 0 = 2; fill 1 = 3; count 2 2 = 12; count 3 2 = 14; count 1 20 = 2; count 0 20 = 0; count 3 1 = 4",
+    Script.run("36 after a larger one", "spell " + A20 + " = 0; power 0 2 = 1; spell aa = 2; group = 0; generate 0 1",
+        "group = 1",
+        "generate 1 2; fill 0 = 2; fill 1 = 3; count 2 2 = 12; count 3 2 = 14; count 1 20 = 2; count 0 20 = 0",
+        "count 3 1 = 4",
         "count 2 1 = 4; count 3 3 = 68");
+    Script.run("36 of another one", "spell " + A20 + " = 0; power 0 2 = 1; spell a = 2; spell b = 3; group = 0",
+        "generate 0 1",
+        "group = 1; generate 1 0; group = 2; generate 2 2; group = 3; generate 3 3; fill 0 = 4; count 4 19; count 1 20 = 2",
+        "count 4 20; count 0 20 = 0; count 4 20; count 1 19 = 0; count 2 3 = 2; count 3 2 = 2; count 2 3 = 2",
+        "count 3 3 = 2");
     Script.run("36 all", "group = 0; fill 0 = 1; count 1 0 = 1; count 1 1 = 6; count 1 2 = 30; count 1 3 = 150",
         "count 1 20 = 114440917968750");
   }

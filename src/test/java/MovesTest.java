@@ -63,8 +63,10 @@ public final class MovesTest {
         "isPrimitive 2 = false; spell cabaC = 3; isPrimitive 3 = true; spell abAB = 4; isPrimitive 4 = false",
         "spell aabaab = 5; isPrimitive 5 = false; spell abcabcab = 6; isPrimitive 6 = true; spell aabb = 7",
         "isPrimitive 7 = false; spell aabaabab = 8; isPrimitive 8 = true; isPrimitive 9 = IOOBE; isPrimitive -1 = IOOBE",
-        "spell C = 9; isPrimitive 9 = true; spell aabbccc = 10; isPrimitive 10 = false; spell aabbabb = 11; isPrimitive 11 = false");
-    Script.run("48 and 51", "spell a; spell bb; isPrimitive 1 = false; primitiveShare = 0.5; spell ab; isPrimitive 2 = true",
+        "spell C = 9; isPrimitive 9 = true; spell aabbccc = 10; isPrimitive 10 = false; spell aabbabb = 11",
+        "isPrimitive 11 = false");
+    Script.run("48 and 51", "spell a; spell bb; isPrimitive 1 = false; primitiveShare = 0.5; spell ab",
+        "isPrimitive 2 = true",
         "isPrimitive 0 = true; product 1 2 = 3; isPrimitive 3 = true; primitiveShare = 0.75");
   }
 

@@ -201,15 +201,21 @@ public final class RandomRunsTest {
   private Object value(char kind, PlainRose other) {
     boolean odd = draw(40) == 0;
     switch (kind) {
-      case 'w': return odd ? draw(30) - 3 : draw(Math.max(1, other.wordCount()));
-      case 'g': return odd ? draw(11) - 2 : draw(Math.max(1, other.groupCount()));
-      case 'm': return odd ? draw(9) - 2 : draw(Math.max(1, other.mapCount()));
+      case 'w': return odd ? oddNumber(-3, 27) : draw(Math.max(1, other.wordCount()));
+      case 'g': return odd ? oddNumber(-2, 9) : draw(Math.max(1, other.groupCount()));
+      case 'm': return odd ? oddNumber(-2, 7) : draw(Math.max(1, other.mapCount()));
       case 'l': return odd ? "dDxX@`[{ \u0000\u00ff\uffff".charAt(draw(12)) : "aAbBcCabcabc".charAt(draw(12));
-      case 'i': return draw(5) - (odd ? 2 : 0);
-      case 'e': return odd ? draw(100) - 50 : draw(15) - 7;
-      case 'n': return odd ? draw(50) - 10 : draw(22);
-      default: return draw(odd ? 50 : 8) - 1;
+      case 'i': return odd ? oddNumber(-2, 90) : draw(5);
+      case 'e': return odd ? oddNumber(-50, 50) : draw(15) - 7;
+      case 'n': return odd ? oddNumber(-10, 40) : draw(22);
+      default: return odd ? oddNumber(-2, 50) : draw(8) - 1;
     }
+  }
+
+  /** One from a number on, below another one, or at times one of the last that an int can be. */
+  private int oddNumber(int from, int below) {
+    int far = draw(5);
+    return far == 0 ? Integer.MIN_VALUE + draw(3) : far == 1 ? Integer.MAX_VALUE - draw(3) : from + draw(below - from);
   }
 
   private void both(Foldrose one, PlainRose other, String name, Object[] values, StringBuilder told) {

@@ -100,7 +100,8 @@ final class WordEdges {
 
   private static void letters() {
     Edges.sentence(6, "Throws `NoSuchElementException` if there is none",
-        "spell - = 0; letter 0 0 = NSEE; letter 0 -1 = NSEE; letter 0 1 = NSEE; letter 0 most = NSEE; letter 0 least = NSEE");
+        "spell - = 0; letter 0 0 = NSEE; letter 0 -1 = NSEE; letter 0 1 = NSEE; letter 0 most = NSEE",
+        "letter 0 least = NSEE");
     Edges.sentence(6, "Throws `NoSuchElementException` if there is none",
         "spell bAc = 0; letter 0 0 = b; letter 0 2 = c; letter 0 3 = NSEE; letter 0 -1 = NSEE; letter 0 4 = NSEE",
         SIXTY.replace("0 0 = 1", "1 1 = 2").replace("word = 0", "word = 1"), "letter 2 59 = a; letter 2 60 = NSEE",
@@ -178,7 +179,8 @@ final class WordEdges {
         "conjugator 0 0 = ISE; conjugator 2 2 = ISE");
     // The longest that there can be: from C29 ab c29 to b29 ba B29 by b29 A c29, the word of 59 letters.
     Edges.sentence(15, "Throws `IllegalStateException` if there are 24 words, or it would be too long",
-        "often 29 type C; word = 0; inverse 0 = 1; spell ab = 2; product 0 2 = 3; product 3 1 = 4; often 29 type b; word = 5",
+        "often 29 type C; word = 0; inverse 0 = 1; spell ab = 2; product 0 2 = 3; product 3 1 = 4; often 29 type b",
+        "word = 5",
         "inverse 5 = 6; spell ba = 7; product 5 7 = 8; product 8 6 = 9; length 4 = 60; length 9 = 60; conjugator 4 9 = 10",
         "length 10 = 59; letter 10 28 = b; letter 10 29 = A; letter 10 30 = c; letter 10 58 = c");
     // Going round not at all, by one letter either way, and half round, where both ways are as long.
