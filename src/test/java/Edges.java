@@ -12,7 +12,7 @@ import java.util.Set;
 /**
  * The sentences of the document that name a boundary case, each with the runs of calls that would not answer as is
  * due if it did not hold. At the end the document itself is read: each sentence told here stands in it, and each one
- * of it that says when a call throws, or tells a range, is told here.
+ * of it that says when a call throws, tells a range or allows the same twice, is told here.
  */
 final class Edges {
   /** The promise number under which the sentences of "What it is" and of "Terms" are told. */
@@ -49,7 +49,7 @@ final class Edges {
     int refusals = 0;
     for (String line : promise == TERMS ? List.<String>of() : lines) {
       boolean refuses = line.startsWith("Throws ");
-      boolean ranges = line.startsWith("- `") && (line.matches(".*\\d.*") || line.endsWith("a, b or c"));
+      boolean ranges = line.startsWith("- `") && line.matches(".*(\\d.*|a, b or c|or the same)");
       refusals += refuses ? 1 : 0;
       if (refuses || ranges) {
         Check.due("told here of promise " + promise + ": " + line, () -> TOLD.contains(promise + " " + line), true);

@@ -7,6 +7,7 @@ public final class EdgesTest {
     GroupEdges.all();
     MapEdges.all();
     MoveEdges.all();
+    SameEdges.all();
     OrderEdges.all();
     TermEdges.all();
     Edges.heldAgainstTheDocument();
