@@ -719,16 +719,24 @@ public final class Foldrose {
     }
 
     void addRow(Row other) {
-      addPart(other, 0, other.size);
+      int end = other.size;
+      for (int i = 0; i < end; i++) {
+        add(other.letters[i]);
+      }
     }
 
     void addInverse(Row other) {
-      addPartInverse(other, 0, other.size);
+      for (int i = other.size - 1; i >= 0; i--) {
+        add(other.letters[i] ^ 1);
+      }
     }
 
+    /** The other row is cancelled already, so nothing has to be looked at again. */
     void set(Row other) {
-      clear();
-      addRow(other);
+      size = other.size < letters.length ? other.size : letters.length;
+      for (int i = 0; i < size; i++) {
+        letters[i] = other.letters[i];
+      }
     }
 
     int orderTo(Row other) {

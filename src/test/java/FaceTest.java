@@ -1,62 +1,59 @@
 import java.io.IOException;
 import java.lang.reflect.Constructor;
+import java.lang.reflect.Executable;
 import java.lang.reflect.Field;
 import java.lang.reflect.Method;
 import java.lang.reflect.Modifier;
 import java.nio.charset.StandardCharsets;
 import java.nio.file.Files;
 import java.nio.file.Path;
-import java.util.Arrays;
+import java.util.List;
 import java.util.Set;
 import java.util.TreeSet;
-import java.util.regex.Matcher;
-import java.util.regex.Pattern;
 
-/** The face of the class as the document tells it, and the rules of the language that can be looked up. */
+/** The face of the class as the document tells it, and the rules of the language for its members. */
 public final class FaceTest {
-  private static final String FACE = "double meanLength(); float primitiveShare(); long checksum(); boolean isSound();"
-      + "int type(char); int wipe(); int word(); int length(int); char letter(int,int); int compare(int,int);"
-      + "int product(int,int); int inverse(int); int power(int,int); int core(int); int exponent(int);"
-      + "int sum(int,char); boolean commute(int,int); int conjugator(int,int); int group(); int generate(int,int);"
-      + "int undo(int); int points(int); int rank(int); int next(int,int,char); int leads(int,int);"
-      + "boolean contains(int,int); int index(int); int basis(int,int); int written(int,int);"
-      + "int writtenAt(int,int,int); int meet(int,int); int join(int,int); int conjugate(int,int); int fill(int);"
-      + "boolean isWithin(int,int); boolean areConjugate(int,int); boolean isMalnormal(int); boolean isNormal(int);"
-      + "long count(int,int); int map(); int image(int,char,int); int apply(int,int); int compose(int,int);"
-      + "boolean isOnto(int); int invert(int); boolean fixes(int,int); long growth(int,char,int); boolean isTrack(int);"
-      + "long determinant(int); int shorten(int); boolean isPrimitive(int); boolean areOfOrbit(int,int);";
+  private static final String DOCUMENT = "../shared/DOC.md";
 
   public static void main(String[] args) throws IOException {
-    face();
+    face(Files.readAllLines(Path.of(DOCUMENT), StandardCharsets.UTF_8));
     members();
-    source(Files.readString(Path.of("src/main/java/Foldrose.java"), StandardCharsets.UTF_8));
     Check.end("FaceTest");
   }
 
-  private static void face() {
+  private static void face(List<String> document) {
     Set<String> due = new TreeSet<>();
-    for (String call : FACE.split(";")) {
-      due.add(call.trim());
+    for (String line : document) {
+      if (line.startsWith("    public ")) {
+        due.add(line.trim().replaceAll("(char|int) \\w+(?=[,)])", "$1"));
+      }
     }
     Set<String> got = new TreeSet<>();
     for (Method method : Foldrose.class.getDeclaredMethods()) {
       if (Modifier.isPublic(method.getModifiers())) {
-        got.add(told(method));
+        got.add("public " + method.getReturnType() + " " + method.getName() + told(method));
       }
     }
-    Check.due("the public methods", () -> got, due);
+    for (Constructor<?> constructor : Foldrose.class.getDeclaredConstructors()) {
+      got.add(Modifier.toString(constructor.getModifiers()) + " Foldrose" + told(constructor));
+    }
+    Check.due("how many members the document has", due::size, 53);
+    Check.due("the public members", () -> got, due);
     int modifiers = Foldrose.class.getModifiers();
     Check.due("public and final", () -> Modifier.isPublic(modifiers) && Modifier.isFinal(modifiers), true);
-    Check.due("the constructors", () -> Arrays.toString(Foldrose.class.getDeclaredConstructors()),
-        "[public Foldrose()]");
   }
 
-  private static String told(Method method) {
-    StringBuilder text = new StringBuilder(method.getReturnType() + " " + method.getName() + "(");
-    for (int i = 0; i < method.getParameterCount(); i++) {
-      text.append(i > 0 ? "," : "").append(method.getParameterTypes()[i]);
+  private static String told(Executable member) {
+    StringBuilder text = new StringBuilder("(");
+    for (Class<?> type : member.getParameterTypes()) {
+      text.append(text.length() > 1 ? ", " : "").append(type);
     }
-    return text.append(")").toString();
+    String before = ") throws ";
+    for (Class<?> type : member.getExceptionTypes()) {
+      text.append(before).append(type.getSimpleName());
+      before = ", ";
+    }
+    return text.append(member.getExceptionTypes().length > 0 ? ";" : ");").toString();
   }
 
   private static void members() {
@@ -99,49 +96,6 @@ public final class FaceTest {
     }
     for (Constructor<?> constructor : type.getDeclaredConstructors()) {
       Check.due("at most seven parameters: " + constructor, () -> constructor.getParameterCount() <= 7, true);
-    }
-  }
-
-  /** Words and signs that the language does not have, looked for once comments and texts are out of the way. */
-  private static void source(String text) {
-    for (char sign : text.toCharArray()) {
-      if (sign > 127) {
-        Check.due("signs up to 127", () -> (int) sign, "at most 127");
-      }
-    }
-    String code = text.replaceAll("(?s)/\\*.*?\\*/", "").replaceAll("//[^\n]*", "").replaceAll("\"[^\"\n]*\"", "\"\"");
-    String[] barred = {"->", "::", "\\btry\\b", "\\bcatch\\b", "\\bfinally\\b", "\\bassert\\b", "\\bsynchronized\\b",
-      "\\bpackage\\b", "static \\{", "Exact\\(", "\\bSystem\\.(?!arraycopy)", "\\bThread\\b", "\\bRandom\\b",
-      "\\bObject\\b", "\\binstanceof\\b", "\\bvar\\b", "\\bextends\\b", "while \\(true\\)", "for \\(;;\\)"};
-    for (String pattern : barred) {
-      Matcher found = Pattern.compile(pattern).matcher(code);
-      Check.due("the language has no " + pattern, found::find, false);
-    }
-    Matcher imports = Pattern.compile("(?m)^import (.*);$").matcher(code);
-    while (imports.find()) {
-      String name = imports.group(1);
-      Check.due("an import", () -> name, "java.util.NoSuchElementException");
-    }
-    Matcher statics = Pattern.compile("\\bstatic (?!final)(?!\\w+ \\w+\\()[^\n]*=").matcher(code);
-    Check.due("static fields are final", statics::find, false);
-    methodLengths(text.split("\n"));
-  }
-
-  private static void methodLengths(String[] lines) {
-    int start = -1;
-    for (int i = 0; i < lines.length; i++) {
-      boolean opens = lines[i].matches(" {2}( {2})?[A-Za-z].*\\{") && !lines[i].contains(" class ");
-      boolean splits = lines[i].matches(" {2}( {2})?[A-Za-z].*\\)") && i + 1 < lines.length
-          && lines[i + 1].matches(" +throws .*\\{");
-      if (opens || splits) {
-        start = i;
-      }
-      if (start >= 0 && lines[i].matches(" {2}( {2})?\\}")) {
-        String first = lines[start];
-        int length = i - start + 1;
-        Check.due("at most sixty lines:" + first, () -> length <= 60, true);
-        start = -1;
-      }
     }
   }
 }
